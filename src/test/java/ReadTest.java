@@ -152,6 +152,8 @@ public final class ReadTest {
         refused(2, 254, 255, 0xD8, 0, 0xDC);
         refused(2, 254, 255, 0xD8, 0, 0, 97);
         refused(2, 254, 255, 0xD8, 0, 0xD8, 0, 0xDC, 0);
+        refused(2, 254, 255, 0xD8, 0, 0xE0, 0);
+        refused(2, 254, 255, 0xD8, 1, 0xDB, 0xFF);
         refused(2, 254, 255, 0xDB, 0xFF, 0xE0, 0);
         refused(2, 254, 255, 0xDB, 0xFF, 0xDB, 0xFF);
         refused(2, 254, 255, 0xDC, 0, 0xDC, 0);
