@@ -7,6 +7,7 @@ import java.nio.charset.StandardCharsets;
 import java.util.ArrayList;
 import java.util.Arrays;
 import java.util.List;
+import java.util.regex.Pattern;
 
 /** What the document asks, built on the Java library's own encodings. */
 final class Model {
@@ -17,6 +18,21 @@ final class Model {
         StandardCharsets.UTF_8, StandardCharsets.UTF_16BE, StandardCharsets.UTF_16LE,
         StandardCharsets.UTF_8
     };
+
+    private static final String START = "A-Za-z:_\\x{C0}-\\x{D6}\\x{D8}-\\x{F6}\\x{F8}-\\x{2FF}"
+        + "\\x{370}-\\x{37D}\\x{37F}-\\x{1FFF}\\x{200C}\\x{200D}\\x{2070}-\\x{218F}"
+        + "\\x{2C00}-\\x{2FEF}\\x{3001}-\\x{D7FF}\\x{F900}-\\x{FDCF}\\x{FDF0}-\\x{FFFD}"
+        + "\\x{10000}-\\x{EFFFF}";
+    private static final Pattern[] KINDS = {
+        Pattern.compile("[ \\t\\r\\n]"),
+        Pattern.compile("[A-Za-z]"),
+        Pattern.compile("[0-9]"),
+        Pattern.compile("[" + START + "]"),
+        Pattern.compile("[" + START + "0-9.\\x{B7}\\x{300}-\\x{36F}\\x{203F}\\x{2040}-]"),
+        Pattern.compile("[ \\nA-Za-z0-9'()+,./:=?;!*#@$_%-]"),
+    };
+    private static final Pattern CHARACTER = Pattern.compile(
+        "[\\t\\n\\r\\x{20}-\\x{D7FF}\\x{E000}-\\x{FFFD}\\x{10000}-\\x{10FFFF}]");
 
     byte[] bytes = {};
     List<Integer> text = new ArrayList<>();
@@ -82,6 +98,49 @@ final class Model {
         return true;
     }
 
+    static int kinds(int c) {
+        int kinds = 0;
+        for (int k = 0; k < KINDS.length && isCharacter(c); k++) {
+            kinds += KINDS[k].matcher(Character.toString(c)).matches() ? 1 << k : 0;
+        }
+        return kinds;
+    }
+
+    int run(int i, int kinds) {
+        int many = 0;
+        while (i >= 0 && i + many < text.size() && (kinds(text.get(i + many)) & kinds) != 0) {
+            many++;
+        }
+        return many;
+    }
+
+    int came(int i) {
+        return i >= 0 && i < bytes.length ? bytes[i] & 255 : -1;
+    }
+
+    int sign(int i) {
+        return i >= 0 && i < text.size() ? text.get(i) : -1;
+    }
+
+    int change(int i, int b) {
+        int before = came(i);
+        if (before == -1 || b < 0 || b > 255) {
+            return -1;
+        }
+        bytes[i] = (byte) b;
+        return before;
+    }
+
+    /** How many bytes there were; -1 when the call must throw. */
+    int end(int n) {
+        int before = bytes.length;
+        if (n < 0 || n > before) {
+            return -1;
+        }
+        bytes = Arrays.copyOf(bytes, n);
+        return before;
+    }
+
     private static int wayOf(byte[] all) {
         for (int w = 1; w <= 3; w++) {
             int size = MARKS[w].length;
@@ -106,8 +165,7 @@ final class Model {
 
     private static boolean isCharacter(int c) {
         return Character.isValidCodePoint(c)
-            && new String(Character.toChars(c)).matches(
-                "[\\t\\n\\r\\x{20}-\\x{D7FF}\\x{E000}-\\x{FFFD}\\x{10000}-\\x{10FFFF}]");
+            && CHARACTER.matcher(Character.toString(c)).matches();
     }
 
     private static List<Integer> linesMadeOne(List<Integer> numbers) {

@@ -2,8 +2,7 @@ import java.util.Random;
 
 /** Runs of 512 calls, the same ones each time, answered by the class and by the model alike. */
 public final class ModelTest {
-    private static final int RUNS = 400;
-    private static final int CALLS = 512;
+    private static final int RUNS = 1200;
     private static final int[] EDGES = {
         9, 10, 13, 31, 32, 127, 128, 2047, 2048, 55295, 55296, 57343, 57344, 65279, 65533, 65534,
         65535, 65536, 1114111, 1114112, -1, 0
@@ -14,13 +13,16 @@ public final class ModelTest {
     };
 
     private final Random random;
-    private final SignReader x = new SignReader();
+    private final Counted x = new Counted();
     private final Model model = new Model();
     private final String name;
+    /** The more, the fewer are the calls that make bytes or text fewer. */
+    private final int patience;
 
     private ModelTest(int run) {
         random = new Random(run);
         name = "run " + run;
+        patience = 1 << random.nextInt(5);
     }
 
     public static void main(String[] args) {
@@ -31,68 +33,82 @@ public final class ModelTest {
     }
 
     private void go() {
-        // Some runs hardly read, so that bytes and text come near their limits.
-        int readsOneIn = 1 << random.nextInt(5);
-        for (int k = 0; k < CALLS; k++) {
-            int which = random.nextInt(10);
-            if (which == 0 && random.nextInt(readsOneIn) == 0) {
-                Check.due(name + ": read()", x.read(), model.read());
-            } else if (which <= 3) {
-                feed(readsOneIn);
-            } else if (which == 4 && random.nextInt(readsOneIn) == 0) {
-                end();
-            } else if (which == 5) {
-                change();
-            } else if (which == 6) {
-                int way = random.nextInt(6) - 1;
-                if (random.nextInt(readsOneIn) == 0) {
-                    Check.due(name + ": write(" + way + ")", x.write(way), model.write(way));
-                }
-            } else {
-                int c = number();
-                Check.due(name + ": add(" + c + ")", x.add(c), model.add(c));
-            }
-            lookAtSome();
+        if (random.nextInt(4) == 0) {
+            comeNearTheLimit();
         }
-        lookAtAll();
+        while (x.callsLeft() > 0) {
+            if (random.nextInt(3) == 0) {
+                look();
+            } else {
+                act();
+            }
+        }
     }
 
-    private void feed(int readsOneIn) {
+    private void comeNearTheLimit() {
+        for (int k = 0; k < 203; k++) {
+            feed(0x61616161, 0x61616161, 0x61616161, 0x61616161, 0x61616161);
+        }
+        int mark = random.nextInt(4);
+        if (mark == 1) {
+            change(0, 254);
+            change(1, 255);
+        } else if (mark == 2) {
+            change(0, 255);
+            change(1, 254);
+        }
+        if (random.nextBoolean()) {
+            Check.due(name + ": read()", x.read(), model.read());
+        }
+    }
+
+    private void act() {
+        int which = random.nextInt(10);
+        boolean patient = random.nextInt(patience) != 0;
+        if (which == 0 && !patient) {
+            Check.due(name + ": read()", x.read(), model.read());
+        } else if (which <= 2) {
+            feedSome();
+        } else if (which == 3 && !patient) {
+            end(model.bytes.length - random.nextInt(24) + 2);
+        } else if (which == 4) {
+            change(random.nextInt(model.bytes.length + 2) - 1, random.nextInt(258) - 1);
+        } else if (which == 5 && !patient) {
+            int way = random.nextInt(6) - 1;
+            Check.due(name + ": write(" + way + ")", x.write(way), model.write(way));
+        } else {
+            int c = number();
+            Check.due(name + ": add(" + c + ")", x.add(c), model.add(c));
+        }
+    }
+
+    private void feedSome() {
         int[] five = new int[5];
-        boolean plain = random.nextInt(readsOneIn + 1) != 0;
+        boolean plain = random.nextInt(patience + 1) != 0;
         for (int k = 0; k < 20; k++) {
             int b = plain ? 97 + random.nextInt(26)
                 : EDGE_BYTES[random.nextInt(EDGE_BYTES.length)];
             five[k / 4] = five[k / 4] << 8 | b;
         }
-        boolean taken = true;
-        try {
-            x.feed(five[0], five[1], five[2], five[3], five[4]);
-        } catch (IllegalStateException e) {
-            taken = false;
-        }
-        Check.dueThat(name + ": feed", taken == model.feed(five));
+        feed(five);
     }
 
-    private void end() {
-        int n = model.bytes.length - random.nextInt(24) + 2;
-        if (n < 0 || n > model.bytes.length) {
-            Check.dueThat(name + ": end(" + n + ") throws", Hand.endThrows(x, n));
+    private void feed(int... five) {
+        boolean throwing = x.feedThrows(five[0], five[1], five[2], five[3], five[4]);
+        Check.dueThat(name + ": feed", throwing != model.feed(five));
+    }
+
+    private void end(int n) {
+        int want = model.end(n);
+        if (want == -1) {
+            Check.dueThat(name + ": end(" + n + ") throws", x.endThrows(n));
         } else {
-            Check.due(name + ": end(" + n + ")", x.end(n), model.bytes.length);
-            model.bytes = java.util.Arrays.copyOf(model.bytes, n);
+            Check.due(name + ": end(" + n + ")", x.end(n), want);
         }
     }
 
-    private void change() {
-        int i = random.nextInt(model.bytes.length + 2) - 1;
-        int b = random.nextInt(258) - 1;
-        int want = -1;
-        if (i >= 0 && i < model.bytes.length && b >= 0 && b <= 255) {
-            want = model.bytes[i] & 255;
-            model.bytes[i] = (byte) b;
-        }
-        Check.due(name + ": change(" + i + ", " + b + ")", x.change(i, b), want);
+    private void change(int i, int b) {
+        Check.due(name + ": change(" + i + ", " + b + ")", x.change(i, b), model.change(i, b));
     }
 
     private int number() {
@@ -103,45 +119,34 @@ public final class ModelTest {
         return random.nextInt(range == 1 ? 300 : range == 2 ? 70000 : 1200000);
     }
 
-    private void lookAtSome() {
-        Check.due(name + ": length()", x.length(), model.text.size());
-        Check.due(name + ": way()", x.way(), model.way);
-        lookAtByte(random.nextInt(model.bytes.length + 2) - 1);
-        lookAtByte(model.bytes.length - 1);
-        lookAtByte(model.bytes.length);
-        lookAtSign(random.nextInt(model.text.size() + 2) - 1);
-        lookAtSign(model.text.size() - 1);
-        lookAtSign(model.text.size());
-        int i = random.nextInt(model.text.size() + 2) - 1;
-        int kinds = random.nextInt();
-        Check.due(name + ": run(" + i + ", " + kinds + ")", x.run(i, kinds), runOf(i, kinds));
-    }
-
-    private void lookAtAll() {
-        for (int i = 0; i <= model.bytes.length; i++) {
-            lookAtByte(i);
+    private void look() {
+        switch (random.nextInt(6)) {
+            case 0 -> Check.due(name + ": length()", x.length(), model.text.size());
+            case 1 -> Check.due(name + ": way()", x.way(), model.way);
+            case 2 -> {
+                int i = placeIn(model.bytes.length);
+                Check.due(name + ": came(" + i + ")", x.came(i), model.came(i));
+            }
+            case 3 -> {
+                int i = placeIn(model.text.size());
+                Check.due(name + ": sign(" + i + ")", x.sign(i), model.sign(i));
+            }
+            case 4 -> {
+                int i = placeIn(model.text.size());
+                int kinds = random.nextInt();
+                Check.due(name + ": run(" + i + ", " + kinds + ")", x.run(i, kinds),
+                    model.run(i, kinds));
+            }
+            default -> {
+                int c = number();
+                Check.due(name + ": kinds(" + c + ")", x.kinds(c), Model.kinds(c));
+            }
         }
-        for (int i = 0; i <= model.text.size(); i++) {
-            lookAtSign(i);
-        }
     }
 
-    private void lookAtByte(int i) {
-        boolean there = i >= 0 && i < model.bytes.length;
-        Check.due(name + ": came(" + i + ")", x.came(i), there ? model.bytes[i] & 255 : -1);
-    }
-
-    private void lookAtSign(int i) {
-        boolean there = i >= 0 && i < model.text.size();
-        Check.due(name + ": sign(" + i + ")", x.sign(i), there ? model.text.get(i) : -1);
-    }
-
-    private int runOf(int i, int kinds) {
-        int many = 0;
-        while (i >= 0 && i + many < model.text.size()
-            && (x.kinds(model.text.get(i + many)) & kinds) != 0) {
-            many++;
-        }
-        return many;
+    /** A place in a row, or beside its first or its last one, and often one of these. */
+    private int placeIn(int length) {
+        int place = random.nextInt(4);
+        return place == 0 ? length : place == 1 ? length - 1 : random.nextInt(length + 2) - 1;
     }
 }
